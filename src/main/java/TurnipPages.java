@@ -255,7 +255,7 @@ public final class TurnipPages {
     }
 
     public int pageCount(int telegram) throws NoSuchElementException {
-        return requireTelegram(telegram).countPages();
+        return requireTelegram(telegram).pages;
     }
 
     public int rotOf(int telegram, int page) throws NoSuchElementException, IndexOutOfBoundsException {
@@ -562,21 +562,18 @@ public final class TurnipPages {
         }
 
         private static void writeRun(char character, int run, Text code) {
-            if (run >= SHORTEST_COUNTED_RUN) {
+            boolean counted = run >= SHORTEST_COUNTED_RUN;
+            boolean escaped = needsEscape(character);
+            if (counted) {
                 code.add((char) ('0' + run));
-                writeSingle(character, code);
-                return;
             }
-            for (int i = 0; i < run; i++) {
-                writeSingle(character, code);
+            int times = counted ? 1 : run;
+            for (int i = 0; i < times; i++) {
+                if (escaped) {
+                    code.add('\\');
+                }
+                code.add(character);
             }
-        }
-
-        private static void writeSingle(char character, Text code) {
-            if (needsEscape(character)) {
-                code.add('\\');
-            }
-            code.add(character);
         }
 
         private static boolean needsEscape(char character) {
@@ -663,16 +660,22 @@ public final class TurnipPages {
     private static final class Telegram {
         final Text code = new Text(CODE_LIMIT);
         private final int[] rots = new int[PAGE_LIMIT];
+        int pages = 0;
         int number = 0;
         int root = 0;
         int priority = 0;
         int checksum = 0;
 
+        static int pagesFor(int length) {
+            return (length + PAGE_LENGTH - 1) / PAGE_LENGTH;
+        }
+
         void copyFrom(Telegram other) {
             code.copyFrom(other.code);
-            for (int page = 0; page < rots.length; page++) {
-                rots[page] = other.rotAt(page);
+            for (int page = 0; page < rots.length && page < other.rots.length; page++) {
+                rots[page] = other.rots[page];
             }
+            pages = other.pages;
             number = other.number;
             root = other.root;
             priority = other.priority;
@@ -681,35 +684,24 @@ public final class TurnipPages {
 
         void inscribe(Text newCode) {
             code.copyFrom(newCode);
+            pages = pagesFor(code.length);
             for (int page = 0; page < rots.length; page++) {
                 rots[page] = 0;
             }
         }
 
-        int countPages() {
-            return pagesFor(code.length);
-        }
-
-        static int pagesFor(int length) {
-            return (length + PAGE_LENGTH - 1) / PAGE_LENGTH;
-        }
-
         boolean hasPage(int page) {
-            return page >= 0 && page < countPages() && page < rots.length;
+            return page >= 0 && page < pages && page < rots.length;
         }
 
         int rotAt(int page) {
             return hasPage(page) ? rots[page] : 0;
         }
 
-        private boolean isRotten(int page) {
-            return rotAt(page) >= ROTTEN;
-        }
-
         /** Answers how many pages become rotten. */
         int rotBy(int amount) {
             int before = countRottenPages();
-            for (int page = 0; hasPage(page); page++) {
+            for (int page = 0; page < pages && page < rots.length; page++) {
                 rots[page] = Math.min(rots[page] + amount, ROTTEN);
             }
             return countRottenPages() - before;
@@ -717,15 +709,15 @@ public final class TurnipPages {
 
         int countRottenPages() {
             int sum = 0;
-            for (int page = 0; hasPage(page); page++) {
-                sum += isRotten(page) ? 1 : 0;
+            for (int page = 0; page < pages && page < rots.length; page++) {
+                sum += rots[page] >= ROTTEN ? 1 : 0;
             }
             return sum;
         }
 
         int findRottenPage() {
-            for (int page = 0; hasPage(page); page++) {
-                if (isRotten(page)) {
+            for (int page = 0; page < pages && page < rots.length; page++) {
+                if (rots[page] >= ROTTEN) {
                     return page;
                 }
             }
@@ -734,8 +726,8 @@ public final class TurnipPages {
 
         int greatestRot() {
             int most = 0;
-            for (int page = 0; hasPage(page); page++) {
-                most = Math.max(most, rotAt(page));
+            for (int page = 0; page < pages && page < rots.length; page++) {
+                most = Math.max(most, rots[page]);
             }
             return most;
         }
@@ -744,8 +736,8 @@ public final class TurnipPages {
             if (priority != other.priority) {
                 return priority > other.priority;
             }
-            if (countPages() != other.countPages()) {
-                return countPages() < other.countPages();
+            if (pages != other.pages) {
+                return pages < other.pages;
             }
             return number < other.number;
         }
@@ -765,7 +757,7 @@ public final class TurnipPages {
             line.addNumber(root);
             line.add('!');
             line.addNumber(priority);
-            for (int page = 0; hasPage(page); page++) {
+            for (int page = 0; page < pages && page < rots.length; page++) {
                 writePage(page, line);
             }
         }
@@ -773,13 +765,14 @@ public final class TurnipPages {
         private void writePage(int page, Text line) {
             int start = page * PAGE_LENGTH;
             int end = Math.min(start + PAGE_LENGTH, code.length);
+            int rot = rotAt(page);
             line.add(' ');
             line.add('[');
             for (int i = start; i < end; i++) {
-                line.add(isRotten(page) ? '~' : code.at(i));
+                line.add(rot >= ROTTEN ? '~' : code.at(i));
             }
             line.add(']');
-            line.addNumber(rotAt(page));
+            line.addNumber(rot);
         }
     }
 
@@ -833,7 +826,7 @@ public final class TurnipPages {
 
         int findDampestRoot() {
             int dampest = NONE;
-            for (int root = 0; hasRoot(root); root++) {
+            for (int root = 0; root < rootCount && root < dampnesses.length; root++) {
                 if (dampest == NONE || dampnessAt(root) > dampnessAt(dampest)) {
                     dampest = root;
                 }
@@ -920,7 +913,7 @@ public final class TurnipPages {
         int countPagesIn(int root) {
             int sum = 0;
             for (int i = 0; i < telegramCount && i < telegrams.length; i++) {
-                sum += telegrams[i].root == root ? telegrams[i].countPages() : 0;
+                sum += telegrams[i].root == root ? telegrams[i].pages : 0;
             }
             return sum;
         }
@@ -928,7 +921,7 @@ public final class TurnipPages {
         int countPages() {
             int sum = 0;
             for (int i = 0; i < telegramCount && i < telegrams.length; i++) {
-                sum += telegrams[i].countPages();
+                sum += telegrams[i].pages;
             }
             return sum;
         }
@@ -1080,7 +1073,7 @@ public final class TurnipPages {
             }
             Code.fold(decoded, recoded);
             int pages = Telegram.pagesFor(recoded.length);
-            if (!store.hasRoomFor(telegram.root, pages - telegram.countPages())) {
+            if (!store.hasRoomFor(telegram.root, pages - telegram.pages)) {
                 return denied(LIMIT_REACHED, PAGE_LIMIT);
             }
             telegram.inscribe(recoded);
@@ -1099,7 +1092,7 @@ public final class TurnipPages {
             if (before == root) {
                 return denied(VALUE_PRESENT, root);
             }
-            if (!store.hasRoomFor(root, telegram.countPages())) {
+            if (!store.hasRoomFor(root, telegram.pages)) {
                 return denied(LIMIT_REACHED, PAGE_LIMIT);
             }
             telegram.root = root;

@@ -103,6 +103,14 @@ public final class PageTest {
         x.dry(1);
         Check.equal("35 never, once dry", Check.answer(x, y -> y.daysUntilRotten(1)), "throws NoSuchElementException");
         Check.equal("35 is no change", x.undoCount(), 8);
+        TurnipPages slow = Make.roots(1);
+        Make.carve(slow, 0, 0, "a");
+        slow.age(18);
+        Check.equal("35 2 are missing, dampness 1", slow.daysUntilRotten(0), 2);
+        slow.age(1);
+        Check.equal("35 1 is missing", slow.daysUntilRotten(0), 1);
+        slow.age(1);
+        Check.equal("35 none is missing", slow.daysUntilRotten(0), 0);
         for (int wrong : WRONG_NUMBERS) {
             Check.noElement("35 telegram " + wrong, Make::used, y -> y.daysUntilRotten(wrong));
         }

@@ -1,3 +1,6 @@
+import java.util.regex.Matcher;
+import java.util.regex.Pattern;
+
 /** Promises 15 to 31: telegrams. */
 public final class TelegramTest {
     private static final int[] WRONG_NUMBERS = {-1, 1, 2, 32, Integer.MIN_VALUE, Integer.MAX_VALUE};
@@ -261,6 +264,20 @@ public final class TelegramTest {
         for (int wrong : WRONG_NUMBERS) {
             Check.noElement("19 telegram " + wrong, Make::used, y -> y.drop(wrong));
         }
+        TurnipPages many = thirtyTwo();
+        Check.equal("19 of 32", many.drop(7), 31);
+        Check.equal("19 the last of 32", many.telegramAt(30) + " " + Look.code(many, 31), "31 last");
+        Check.equal("19 room for one", Make.carve(many, 3, 0, "new"), 32);
+        Check.equal("19 32 again", many.telegramCount() + " " + many.telegramAt(31) + " " + Look.code(many, 32), "32 32 new");
+        Check.equal("19 the one before", Look.code(many, 31), "last");
+    }
+
+    private static TurnipPages thirtyTwo() {
+        TurnipPages x = Make.roots(0, 0, 0, 0);
+        for (int i = 0; i < 32; i++) {
+            Make.carve(x, i % 4, 0, i < 31 ? "n" : "last");
+        }
+        return x;
     }
 
     private static void promise20() {
@@ -281,6 +298,48 @@ public final class TelegramTest {
         Check.equal("20 long", dense.read(number), 162);
         Check.equal("20 long line", Look.line(dense), text);
         Check.equal("20 long last", dense.lineCharacter(161), 'f');
+        promise20Longest();
+    }
+
+    /** Carving anew makes a code longer, up to eight pages; no code is denser than 9a9b. */
+    private static void promise20Longest() {
+        TurnipPages x = Make.roots(0);
+        int sum = Make.sum("0123456789".repeat(4));
+        Make.carve(x, 0, 0, "0123456789".repeat(4));
+        Make.damage(x, 0, withSum("8\\13\\18\\23\\2".repeat(6) + "abcdef??", sum));
+        Check.equal("17 from 7 pages to 8", x.recarve(0), 8);
+        Check.equal("17 a longer code", x.codeLength(0), 92);
+        Make.damage(x, 0, withSum("8\\13\\18\\23\\2".repeat(2) + "abcdefgh".repeat(8) + "??cd", sum));
+        Check.equal("17 8 pages again", x.recarve(0), 8);
+        Check.equal("17 the longest code", x.codeLength(0), 96);
+        Make.damage(x, 0, withSum("9a9b".repeat(23) + "9?9?", sum));
+        Check.equal("29 the longest text", x.decodedLength(0), 432);
+        Check.equal("30 the longest text", x.decodedLengthByUnits(0), 432);
+        Check.equal("20 the longest text", x.read(0), 432);
+        Check.equal("20 its last character", x.lineCharacter(431), x.codeCharacter(0, 95));
+        Check.equal("20 nothing behind", Check.answer(x, y -> y.lineCharacter(432)), "throws IndexOutOfBoundsException");
+    }
+
+    /** The code with other characters for the first ? and the rest of them, so that its text has the checksum. */
+    private static String withSum(String code, int sum) {
+        for (char first = 'A'; first <= 'Z'; first++) {
+            for (char other = 'a'; other <= 'z'; other++) {
+                String tried = code.replaceFirst("\\?", "" + first).replace('?', other);
+                if (Make.sum(decoded(tried)) == sum) {
+                    return tried;
+                }
+            }
+        }
+        throw new IllegalStateException("no such code");
+    }
+
+    private static String decoded(String code) {
+        StringBuilder text = new StringBuilder();
+        Matcher units = Pattern.compile("([3-9]?)(\\\\?(.))").matcher(code);
+        while (units.find()) {
+            text.append(units.group(3).repeat(units.group(1).isEmpty() ? 1 : Integer.parseInt(units.group(1))));
+        }
+        return text.toString();
     }
 
     private static void promise20Refusals() {
@@ -399,6 +458,10 @@ public final class TelegramTest {
         decodedLengths("ab3", -1);
         decodedLengths("1ab", -1);
         decodedLengths("33a", -1);
+        TurnipPages escapes = Make.roots(0);
+        Make.carve(escapes, 0, 0, "12\\3aaa4\\\\\\\\b");
+        Check.equal("29 escapes", escapes.decodedLength(0), 13);
+        Check.equal("30 escapes", escapes.decodedLengthByUnits(0), 13);
         TurnipPages x = rottenWith("4ab");
         Check.equal("29 rotten", x.decodedLength(0), 5);
         Check.equal("30 rotten", x.decodedLengthByUnits(0), 5);

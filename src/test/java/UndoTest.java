@@ -5,6 +5,7 @@ public final class UndoTest {
         promise49();
         promise49Eight();
         promise49NextNumber();
+        promise49NothingStays();
         promise50();
         promise51();
         promise52();
@@ -16,6 +17,8 @@ public final class UndoTest {
     private static void undone(String what, Check.Call change) {
         TurnipPages tried = Make.used();
         TurnipPages twin = Make.used();
+        tried.age(1);
+        twin.age(1);
         change.on(tried);
         Check.equal("49 changes after " + what, tried.undoCount(), twin.undoCount() + 1);
         Check.equal("49 undo " + what, Check.answer(tried, TurnipPages::undo), twin.undoCount());
@@ -101,6 +104,35 @@ public final class UndoTest {
         Check.equal("49 the next number", Make.carve(x, 0, 0, "c"), 1);
         x.undo();
         Check.equal("49 the message does not come back", x.clearMessage(), 0);
+    }
+
+    /** A telegram that was undone counts nowhere. */
+    private static void promise49NothingStays() {
+        TurnipPages x = Make.roots(5, 5);
+        Make.carve(x, 0, 1, "a");
+        Make.carve(x, 0, 9, "thirteensigns");
+        x.age(4);
+        x.undo();
+        x.undo();
+        Check.equal("49 pages", x.pagesIn(0), 1);
+        Check.equal("49 share", x.rottenShare(), 0.0f);
+        Check.equal("49 mean", x.meanCodeLength(), 1.0);
+        Check.equal("49 by priority", x.telegramByPriority(0), 0);
+        Check.equal("49 by rot", x.telegramByRot(0), 0);
+        Check.equal("49 no second", Check.answer(x, y -> y.telegramByRot(1)), "throws NoSuchElementException");
+        Check.equal("49 not there", Check.answer(x, y -> y.rootOf(1)), "throws NoSuchElementException");
+        Check.equal("49 becomes rotten", x.age(4), 1);
+        Check.equal("49 rotten", x.rottenPages(), 1);
+        Check.equal("49 all are rotten", x.rottenShare(), 1.0f);
+        TurnipPages restored = Make.roots(5, 0);
+        Make.carve(restored, 1, 0, "a");
+        restored.saveSnapshot();
+        Make.carve(restored, 0, 9, "b");
+        restored.age(4);
+        restored.restoreSnapshot();
+        Check.equal("52 none is rotten", restored.rottenPages(), 0);
+        Check.equal("52 by rot", restored.telegramByRot(0), 0);
+        Check.equal("52 by priority", restored.telegramByPriority(0), 0);
     }
 
     private static void promise50() {
