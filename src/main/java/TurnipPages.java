@@ -494,7 +494,7 @@ public final class TurnipPages {
             return index >= 0 && index < length;
         }
 
-        // Past the end stands a character that begins no unit and no command.
+        // Past the end stands a character that no command has, so that a parser need not ask for the end.
         char at(int index) {
             return has(index) ? characters[index] : NO_CHARACTER;
         }
