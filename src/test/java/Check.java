@@ -10,10 +10,23 @@ final class Check {
         TurnipPages make();
     }
 
+    static final String NO_ELEMENT = "throws NoSuchElementException";
+    static final String NO_INDEX = "throws IndexOutOfBoundsException";
+    static final String BAD_ARGUMENT = "throws IllegalArgumentException";
+    static final String BAD_STATE = "throws IllegalStateException";
+    static final String DENIED = "throws UnsupportedOperationException";
+    static final String BAD_ARITHMETIC = "throws ArithmeticException";
+
     private static int passed = 0;
     private static int failed = 0;
+    private static String sentence = "";
 
     private Check() {
+    }
+
+    /** The sentence of the document that the next checks are about. */
+    static void under(String newSentence) {
+        sentence = newSentence;
     }
 
     static void equal(String what, Object got, Object due) {
@@ -28,7 +41,8 @@ final class Check {
         while (line + 1 < Math.min(gotLines.length, dueLines.length) && gotLines[line].equals(dueLines[line])) {
             line++;
         }
-        System.out.println(what + ": answered <" + gotLines[line] + ">, due is <" + dueLines[line] + ">");
+        String where = sentence.isEmpty() ? what : sentence + " -- " + what;
+        System.out.println(where + ": answered <" + gotLines[line] + ">, due is <" + dueLines[line] + ">");
     }
 
     /** The answer of a call, or the name of exactly the exception that it throws. */
@@ -38,6 +52,11 @@ final class Check {
         } catch (RuntimeException e) {
             return "throws " + e.getClass().getSimpleName();
         }
+    }
+
+    /** Each call on an object of its own. */
+    static void answers(String what, Maker maker, Object due, Call call) {
+        equal(what, answer(maker.make(), call), due);
     }
 
     /** The call throws, and its object then answers like a twin without the call. */

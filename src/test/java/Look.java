@@ -38,13 +38,9 @@ final class Look {
         out.append("line ").append(line(x)).append('\n');
         x.encode();
         out.append("message ").append(line(x)).append('\n');
-        lookAtStore(x, out);
-        for (int i = 0; i < x.telegramCount(); i++) {
-            int number = x.telegramAt(i);
-            x.writeTelegram(number);
-            out.append(line(x)).append(" sum ").append(x.checksumOf(number)).append('\n');
-        }
+        out.append("changes ").append(x.undoCount()).append(' ').append(store(x));
         lookAtBuffer(x, out);
+        lookAtNextNumber(x, out);
         for (int i = 0; i < 9 && x.undoCount() > 0; i++) {
             out.append("undo ").append(x.undo()).append(": ");
             lookAtStore(x, out);
@@ -55,9 +51,21 @@ final class Look {
         return out.toString();
     }
 
+    /** All that changes can change, but for the next number; the line is spent. */
+    static String store(TurnipPages x) {
+        StringBuilder out = new StringBuilder();
+        lookAtStore(x, out);
+        for (int i = 0; i < x.telegramCount(); i++) {
+            int number = x.telegramAt(i);
+            x.writeTelegram(number);
+            out.append(line(x)).append(" sum ").append(x.checksumOf(number)).append('\n');
+        }
+        return out.toString();
+    }
+
     private static void lookAtStore(TurnipPages x, StringBuilder out) {
         out.append("day ").append(x.day()).append(" carved ").append(x.carvedCharacters());
-        out.append(" changes ").append(x.undoCount()).append(" roots");
+        out.append(" roots");
         for (int root = 0; root < x.rootCount(); root++) {
             out.append(' ').append(x.dampness(root));
         }
@@ -68,6 +76,21 @@ final class Look {
             out.append('+').append(x.rotOf(number, 0));
         }
         out.append('\n');
+    }
+
+    /** Eight changes leave no room for a ninth that is undone again. */
+    private static void lookAtNextNumber(TurnipPages x, StringBuilder out) {
+        x.clearMessage();
+        x.type('n');
+        Object next = "";
+        for (int root = 0; root < x.rootCount() && x.undoCount() < 8 && !(next instanceof Integer); root++) {
+            int tried = root;
+            next = Check.answer(x, y -> y.carve(tried, 0));
+        }
+        if (next instanceof Integer) {
+            x.undo();
+        }
+        out.append("next number ").append(next).append('\n');
     }
 
     private static void lookAtBuffer(TurnipPages x, StringBuilder out) {
