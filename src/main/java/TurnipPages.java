@@ -491,7 +491,7 @@ public final class TurnipPages {
         }
 
         boolean has(int index) {
-            return index >= 0 && index < length;
+            return index >= 0 && index < length && index < characters.length;
         }
 
         // Past the end stands a character that no command has, so that a parser need not ask for the end.
@@ -521,7 +521,7 @@ public final class TurnipPages {
         }
 
         void copyFrom(Text other) {
-            length = Math.min(other.length, characters.length);
+            length = Math.min(other.length, Math.min(other.characters.length, characters.length));
             System.arraycopy(other.characters, 0, characters, 0, length);
         }
     }

@@ -16,11 +16,10 @@ final class Needs {
         Make.carve(x, 1, 9, "dropped");
         Make.carve(x, 2, 0, "thirteensigns");
         x.saveSnapshot();
-        x.drop(1);
-        x.age(1);
         Make.carve(x, 0, 0, "undone");
         x.undo();
         Check.answer(x, y -> y.move(0, 0));
+        Make.execute(x, "drop 1;age 1");
         Make.feed(x, "rot");
         Check.answer(x, TurnipPages::execute);
         Make.feed(x, "dry 0");

@@ -56,6 +56,7 @@ final class PageSentences {
         Check.answers("20 days", PageSentences::sixPages, 3, x -> x.age(20));
         Check.answers("only those of these days", () -> Make.aged(sixPages(), 4), 2, x -> x.age(16));
         Check.answers("one day less", () -> Make.aged(sixPages(), 4), 0, x -> x.age(15));
+        Check.answers("no undone ones", () -> Make.undone(Make.filled(3), 2), 1, x -> x.age(20));
         Check.answers("all rotten that can be", () -> Make.aged(sixPages(), 20), 0, x -> x.age(20));
     }
 
@@ -145,6 +146,17 @@ final class PageSentences {
         Check.answers("eight", () -> Make.aged(Make.filled(8), 20), 8, TurnipPages::rottenPages);
         Check.answers("dropped", () -> Make.dropped(Make.aged(Make.filled(8), 20), 0), 7, TurnipPages::rottenPages);
         Check.answers("undone", () -> Make.undone(Make.aged(Make.filled(8), 20), 1), 0, TurnipPages::rottenPages);
+        Check.answers("restored", PageSentences::restored, 0, TurnipPages::rottenPages);
+    }
+
+    /** What was carved and became rotten behind the snapshot is gone. */
+    private static TurnipPages restored() {
+        TurnipPages x = Make.filled(1);
+        x.saveSnapshot();
+        Make.carve(x, 0, 0, "later");
+        x.age(20);
+        x.restoreSnapshot();
+        return x;
     }
 
     private static void promise37() {
@@ -196,6 +208,8 @@ final class PageSentences {
         Check.answers("halves", () -> Make.carved(Needs.longRun(), 0, "abc"), 2.5, TurnipPages::meanCodeLength);
         Doc.says("Returns the mean.");
         Check.answers("of one", () -> Make.filled(1), 1.0, TurnipPages::meanCodeLength);
+        Check.answers("without an undone one", () -> Make.undone(Make.carved(Make.filled(1), 0, "abc"), 1), 1.0,
+                TurnipPages::meanCodeLength);
         Check.answers("of 32", Needs::telegrams32, 1.0, TurnipPages::meanCodeLength);
         Doc.says("Throws `ArithmeticException` if there are no telegrams");
         Check.refused("new", Make::fresh, ArithmeticException.class, TurnipPages::meanCodeLength);
@@ -213,6 +227,7 @@ final class PageSentences {
         Doc.says("Returns the share.");
         Check.answers("none", PageSentences::sixPages, 0.0f, TurnipPages::rottenShare);
         Check.answers("all", () -> Make.aged(Make.filled(8), 20), 1.0f, TurnipPages::rottenShare);
+        Check.answers("without undone ones", () -> Make.aged(Make.undone(Make.filled(3), 2), 20), 1.0f, TurnipPages::rottenShare);
         Doc.says("Throws `ArithmeticException` if there are no pages");
         Check.refused("new", Make::fresh, ArithmeticException.class, TurnipPages::rottenShare);
         Check.refused("roots", () -> Make.roots(1), ArithmeticException.class, TurnipPages::rottenShare);

@@ -200,6 +200,9 @@ final class TelegramSentences {
         Check.equal("the others", x.telegramAt(0) + " " + x.telegramAt(1) + " " + x.telegramAt(2), "0 1 3");
         Check.equal("their codes", Look.code(x, 0) + " " + Look.code(x, 1) + " " + Look.code(x, 3), "f f last");
         Check.answers("a rotten one", () -> Make.damaged("abc", 4), 0, y -> y.drop(0));
+        TurnipPages full = Make.carved(Make.dropped(Needs.telegrams32(), 7), 3, "new");
+        Check.equal("of 32", full.telegramCount() + " " + full.telegramAt(30) + " " + full.telegramAt(31), "32 31 32");
+        Check.equal("the last two", Look.code(full, 31) + " " + Look.code(full, 32), "t new");
         Doc.says("Returns the number of telegrams afterwards.");
         TurnipPages eight = Make.filled(8);
         for (int left = 7; left >= 0; left--) {
@@ -387,6 +390,7 @@ final class TelegramSentences {
         Doc.says("Returns the number of characters.");
         Check.answers("1", () -> Make.carved(Make.roots(0), 0, "a"), 1, x -> call.on(x, 0));
         Check.answers("40", () -> Make.carved(Make.roots(0), 0, "a".repeat(40)), 40, x -> call.on(x, 0));
+        Check.answers("escapes", () -> Make.carved(Make.roots(0), 0, "12\\\\3334a"), 9, x -> call.on(x, 0));
         Check.answers("180", () -> Make.forged("9a".repeat(20), "a".repeat(180)), 180, x -> call.on(x, 0));
         Needs.telegram("Throws `NoSuchElementException` if there is no such telegram, or its code is invalid", call);
         for (String code : new String[] {"2bc", "ab2", "ab3", "ab\\", "a3\\", "33c", "\\bc"}) {
