@@ -21,6 +21,8 @@ final class Doc {
         readTerms(text.substring(text.indexOf("## Terms"), text.indexOf("## Promise 1:")));
         readPromises(text.substring(text.indexOf("## Promise 1:")));
         section = "What it is";
+        keep("A store of telegrams that are carved into roots: texts are encoded with run lengths and escapes, divided into pages,"
+                + " protected by checksums, and pages rot with the dampness of their root.", text);
         keep("An object is used for at most 512 calls after it has been made; what later calls answer is free.", text);
     }
 

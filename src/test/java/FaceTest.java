@@ -13,10 +13,13 @@ import java.util.regex.Matcher;
 import java.util.regex.Pattern;
 import java.util.stream.Collectors;
 
-/** The class shows the face that the document (its path is the argument) gives, and nothing else. */
+/** The class shows the face that the document gives, and nothing else (the paths of the document and the program are the
+ * arguments). */
 public final class FaceTest {
     public static void main(String[] args) throws IOException {
-        Set<String> due = faceOf(Files.readString(Path.of(args[0])));
+        String document = Files.readString(Path.of(args[0]));
+        Check.equal("the headings", headingsIn(Files.readString(Path.of(args[1]))), headingsOf(document));
+        Set<String> due = faceOf(document);
         Set<String> got = new TreeSet<>();
         Set<String> names = new TreeSet<>();
         for (Constructor<?> constructor : TurnipPages.class.getDeclaredConstructors()) {
@@ -57,6 +60,29 @@ public final class FaceTest {
             face.add("public " + lines.group(1) + "(" + types + ")" + (lines.group(3) == null ? "" : " throws " + lines.group(3)));
         }
         return face;
+    }
+
+    /** The headings that the document wants ahead of the calls, with the calls of each in their order. */
+    private static String headingsOf(String document) {
+        Matcher headings = Pattern.compile("Ahead of the calls (.*) the interface says: (---- .*)\\.").matcher(document);
+        StringBuilder out = new StringBuilder();
+        while (headings.find()) {
+            out.append(headings.group(2)).append('\n');
+            out.append(headings.group(1).replaceAll("`,? ?", " ").trim().replaceAll(" +", "\n")).append('\n');
+        }
+        return out.toString();
+    }
+
+    private static String headingsIn(String program) {
+        Matcher lines = Pattern.compile("(?m)^ {4}// (---- .*)$|^ {4}public \\w+ (\\w+)\\(").matcher(program);
+        StringBuilder out = new StringBuilder();
+        while (lines.find()) {
+            String heading = lines.group(1);
+            if (heading == null || !heading.equals("---- what the calls share")) {
+                out.append(heading == null ? lines.group(2) : heading).append('\n');
+            }
+        }
+        return out.toString();
     }
 
     private static String described(Executable executable, String name) {

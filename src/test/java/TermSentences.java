@@ -9,6 +9,7 @@ final class TermSentences {
     }
 
     static void check() {
+        store();
         calls();
         roots();
         runs();
@@ -20,6 +21,34 @@ final class TermSentences {
         pages();
         rot();
         reading();
+    }
+
+    private static void store() {
+        Doc.section("What it is");
+        Doc.says("A store of telegrams that are carved into roots: texts are encoded with run lengths and escapes, divided into"
+                + " pages, protected by checksums, and pages rot with the dampness of their root.");
+        TurnipPages x = Make.roots(2, 3);
+        Make.carve(x, 0, 5, "aaaab7 ended.xyz");
+        Make.carve(x, 1, 6, "\\\\\\");
+        x.age(2);
+        x.writeTelegram(0);
+        Check.equal("the first root", Look.line(x), "#0@0!5 [4ab\\7 ended.]4 [xyz]4");
+        x.writeTelegram(1);
+        Check.equal("the second root", Look.line(x), "#1@1!6 [3\\\\]6");
+        x.damage(0, 12, 'a');
+        Check.equal("the checksum protects", x.isReadable(0) + " " + x.isReadable(1), "false true");
+        storesAreApart();
+    }
+
+    /** What is done to one object shows in no other. */
+    private static void storesAreApart() {
+        TurnipPages used = Needs.telegrams();
+        TurnipPages other = Make.days(1);
+        used.read(0);
+        Check.answer(used, y -> y.dry(1));
+        Check.equal("days", other.day() + " " + other.undo() + " " + other.day(), "1 0 0");
+        Check.equal("nothing else", Look.at(other) + Look.latestDenial(other), Look.at(Make.fresh()) + Look.latestDenial(Make.fresh()));
+        Check.equal("telegrams", used.telegramCount() + " " + Look.line(used), "2 aaaa77b");
     }
 
     private static void calls() {
